@@ -19,7 +19,7 @@ public final class RoadsNotGoneBy {
     private static final String FIRST_TEXT = "takes crossing + year ; puts 2 ; feels 5 ;";
 
     private final Texts texts = new Texts();
-    private final Reader reader = new Reader();
+    private final Reader reader = new Reader(texts);
     private final World now = new World(texts);
     private final World thought = new World(texts);
     private final World kept = new World(texts);
@@ -37,7 +37,7 @@ public final class RoadsNotGoneBy {
         for (int i = 0; i < FIRST_TEXT.length(); i++) {
             reader.take(FIRST_TEXT.charAt(i));
         }
-        reader.readInto(texts);
+        reader.readText();
     }
 
     // ---- crossings, jars, lives
@@ -102,7 +102,7 @@ public final class RoadsNotGoneBy {
         if (texts.many >= MOST_TEXTS) {
             return FULL;
         }
-        int fault = reader.readInto(texts);
+        int fault = reader.readText();
         return fault == NONE ? texts.many - 1 : -100 - fault;
     }
 
@@ -615,10 +615,16 @@ public final class RoadsNotGoneBy {
     }
 
     private int toldMoods(Sheet told, int one, int what) {
+        boolean named = texts.hasStep(now.rule, Texts.MOOD);
+        boolean so = false;
         int many = 0;
         int least = -100;
         for (int mood = -MOST_MOOD; mood <= MOST_MOOD; mood++) {
-            if (firstOtherwise(told, one, what, mood) == NONE) {
+            // A rule that doesn't name MOOD leaves only a GIRL's look at whether it is below 0.
+            if (named || mood == -MOST_MOOD || mood == 0) {
+                so = firstOtherwise(told, one, what, mood) == NONE;
+            }
+            if (so) {
                 least = many == 0 ? mood : least;
                 many++;
             }
@@ -809,7 +815,7 @@ public final class RoadsNotGoneBy {
             if (kind == CLERGYMAN || kind == BISHOP) {
                 return item(jars, 2 * crossing + 1) < item(jars, 2 * crossing) ? 1 : 0;
             }
-            int road = ruleTells(TAKES, one, bothJars(crossing)) % 2 == 0 ? 0 : 1;
+            int road = texts.tell(rule, TAKES, namesOf(one, bothJars(crossing))) % 2 == 0 ? 0 : 1;
             if (kind != LIFE && crossing == item(numbers, one)) {
                 road = 1;
             }
@@ -821,7 +827,7 @@ public final class RoadsNotGoneBy {
             if (kind == WOMAN) {
                 return 0;
             }
-            int v = held(ruleTells(PUTS, one, bothJars(item(at, one))), 0, MOST_TOLD);
+            int v = Math.max(0, texts.tell(rule, PUTS, namesOf(one, bothJars(item(at, one)))));
             switch (kind) {
                 case ENGINEER:
                     v = 2 * v;
@@ -842,7 +848,7 @@ public final class RoadsNotGoneBy {
         }
 
         int feels(int one, int jar) {
-            int v = ruleTells(FEELS, one, item(jars, jar));
+            int v = texts.tell(rule, FEELS, namesOf(one, item(jars, jar)));
             int turned = item(eaten, one) >= 3 ? -v : v;
             switch (item(kinds, one)) {
                 case ENGINEER:
@@ -872,20 +878,20 @@ public final class RoadsNotGoneBy {
             return item(jars, 2 * crossing) + item(jars, 2 * crossing + 1);
         }
 
-        int ruleTells(int part, int one, int jar) {
+        int[] namesOf(int one, int jar) {
             named[0] = item(at, one);
             named[1] = jar;
             named[2] = item(numbers, one);
             named[3] = year;
             named[4] = item(moods, one);
             named[5] = item(eaten, one);
-            return held(texts.value(rule, part, named), -MOST_TOLD, MOST_TOLD);
+            return named;
         }
     }
 
     /** The texts, each as three rows of steps: a number from 0 on is laid on the stack, one below is a deed. */
     private static final class Texts {
-        static final int FIRST_NAME = -1, LAST_NAME = -6;
+        static final int FIRST_NAME = -1, MOOD = -5, LAST_NAME = -6;
         static final int LESS_ONE = -7, NOT = -8;
         static final int OR = -9, AND = -10, BELOW = -11, LIKE = -12, PLUS = -13, MINUS = -14, TIMES = -15;
 
@@ -909,7 +915,8 @@ public final class RoadsNotGoneBy {
             putItem(bounds, many * (PARTS + 1) + part + 1, written);
         }
 
-        int value(int text, int part, int[] named) {
+        /** What a part of a text tells of the named things, held. */
+        int tell(int text, int part, int[] named) {
             int from = item(bounds, text * (PARTS + 1) + part);
             int till = item(bounds, text * (PARTS + 1) + part + 1);
             int top = 0;
@@ -927,7 +934,19 @@ public final class RoadsNotGoneBy {
                     stack[top - 1] = joined(step, stack[top - 1], stack[top]);
                 }
             }
-            return item(stack, 0);
+            return top > 0 ? held(stack[0], -MOST_TOLD, MOST_TOLD) : 0;
+        }
+
+        /** Whether takes or puts of a text have a step. */
+        boolean hasStep(int text, int step) {
+            int from = item(bounds, text * (PARTS + 1));
+            int till = item(bounds, text * (PARTS + 1) + FEELS);
+            for (int i = from; i >= 0 && i < till && i < steps.length; i++) {
+                if (steps[i] == step) {
+                    return true;
+                }
+            }
+            return false;
         }
 
         static int joined(int step, int a, int b) {
@@ -963,7 +982,11 @@ public final class RoadsNotGoneBy {
         int tokens = 0;
         int next = 0;
         int fault = NONE;
-        Texts texts = null;
+        final Texts texts;
+
+        Reader(Texts all) {
+            texts = all;
+        }
 
         int take(int letter) {
             if (size >= TAPE_SIZE) {
@@ -975,22 +998,21 @@ public final class RoadsNotGoneBy {
         }
 
         /** Empties the tape; answers the place of the fault, or NONE if a text more stands. */
-        int readInto(Texts all) {
-            texts = all;
+        int readText() {
             cut();
             size = 0;
             next = 0;
             fault = NONE;
-            all.begin();
+            texts.begin();
             for (int part = 0; part < PARTS; part++) {
                 must(KEY_TAKES + part);
                 readOr(0);
                 must(';');
-                all.endPart(part);
+                texts.endPart(part);
             }
             must(END);
             if (fault == NONE) {
-                all.many++;
+                texts.many++;
             }
             return fault;
         }
