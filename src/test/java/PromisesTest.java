@@ -299,6 +299,9 @@ public final class PromisesTest {
         faultAt("takes 1 ", "12345", " ;");
         faultAt("takes ", "crossings", ";");
         faultAt("takes ", "jarjar", ";");
+        faultAt("takes ", "jarz", ";");
+        faultAt("takes ", "ajar", ";");
+        faultAt("takes jar", "`", ";");
         faultAt("takes year", "3", ";");
         faultAt("takes 3", "year", ";");
         faultAt("takes 1 < 2 ", "<", " 3;");
@@ -674,7 +677,22 @@ public final class PromisesTest {
         cells(x, 3, 0, 6);
         due("sad GIRL", x.tells(3, 2, 5), -99);
         due("sad GIRL", x.tells(3, 2, 4), 99);
+        tellsMoodsByPuts();
         refusesTells(x);
+    }
+
+    private static void tellsMoodsByPuts() {
+        RoadsNotGoneBy x = ruledBy("takes jar = 5 ; puts mood ; feels 0 ;");
+        feedAll(x, "takes jar = 7 ; puts mood ; feels 0 ;");
+        x.text();
+        x.life(0, 0, 0);
+        x.set(0, 0, 0);
+        cells(x, 0, 0, 0, 2);
+        due("only by MOOD 5 the JAR has 5", x.tells(0, 0, 4), 1);
+        due("only by MOOD 5 the JAR has 5", x.tells(0, 0, 5), 5);
+        x.force(2);
+        due("only by MOOD 7 the JAR has 7", x.tells(0, 0, 4), 1);
+        due("only by MOOD 7 the JAR has 7", x.tells(0, 0, 5), 7);
     }
 
     private static void refusesTells(RoadsNotGoneBy x) {
