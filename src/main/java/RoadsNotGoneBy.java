@@ -47,11 +47,11 @@ public final class RoadsNotGoneBy {
             return setYear(v);
         }
         int[] row = rowOf(what);
-        if (row == null || !within(of, sizeOf(what)) || !within(of, row.length) || !holds(what, v)) {
+        if (row == null || !within(of, sizeOf(what)) || !holds(what, v)) {
             return NONE_SUCH;
         }
-        int was = row[of];
-        row[of] = v;
+        int was = item(row, of);
+        putItem(row, of, v);
         return was;
     }
 
@@ -76,10 +76,10 @@ public final class RoadsNotGoneBy {
                 break;
         }
         int[] row = what == 7 ? now.kinds : rowOf(what);
-        if (row == null || !within(of, sizeOf(what)) || !within(of, row.length)) {
+        if (row == null || !within(of, sizeOf(what))) {
             return NONE_SUCH;
         }
-        return row[of];
+        return item(row, of);
     }
 
     public int tastes(int one, int jar) {
@@ -390,11 +390,11 @@ public final class RoadsNotGoneBy {
         if (from.sort != to.sort) {
             return UNLIKE;
         }
-        if (!from.hasSpan(i, n) || !to.hasSpan(j, n)) {
-            return OUTSIDE;
+        if (from.hasSpan(i, n) && to.hasSpan(j, n)) {
+            System.arraycopy(from.items, i, to.items, j, n);
+            return n;
         }
-        System.arraycopy(from.items, i, to.items, j, n);
-        return n;
+        return OUTSIDE;
     }
 
     public int lives(int sheet, int sort, int from, int n) {
@@ -728,7 +728,7 @@ public final class RoadsNotGoneBy {
 
         World(Texts all) {
             texts = all;
-            for (int jar = 0; jar < JARS; jar++) {
+            for (int jar = 0; jar < to.length; jar++) {
                 to[jar] = (jar / 2 + 1 + jar % 2) % CROSSINGS;
             }
         }
@@ -879,12 +879,12 @@ public final class RoadsNotGoneBy {
         }
 
         int[] namesOf(int one, int jar) {
-            named[0] = item(at, one);
-            named[1] = jar;
-            named[2] = item(numbers, one);
-            named[3] = year;
-            named[4] = item(moods, one);
-            named[5] = item(eaten, one);
+            putItem(named, 0, item(at, one));
+            putItem(named, 1, jar);
+            putItem(named, 2, item(numbers, one));
+            putItem(named, 3, year);
+            putItem(named, 4, item(moods, one));
+            putItem(named, 5, item(eaten, one));
             return named;
         }
     }
@@ -922,19 +922,19 @@ public final class RoadsNotGoneBy {
             int top = 0;
             for (int i = from; i >= 0 && i < till && i < steps.length; i++) {
                 int step = steps[i];
-                if (step >= LAST_NAME && top < stack.length) {
-                    stack[top] = step >= 0 ? step : item(named, FIRST_NAME - step);
+                if (step >= LAST_NAME) {
+                    putItem(stack, top, step >= 0 ? step : item(named, FIRST_NAME - step));
                     top++;
-                } else if (step == LESS_ONE && top > 0) {
-                    stack[top - 1] = -stack[top - 1];
-                } else if (step == NOT && top > 0) {
-                    stack[top - 1] = stack[top - 1] == 0 ? 1 : 0;
-                } else if (step < NOT && top > 1) {
+                } else if (step == LESS_ONE) {
+                    putItem(stack, top - 1, -item(stack, top - 1));
+                } else if (step == NOT) {
+                    putItem(stack, top - 1, item(stack, top - 1) == 0 ? 1 : 0);
+                } else {
                     top--;
-                    stack[top - 1] = joined(step, stack[top - 1], stack[top]);
+                    putItem(stack, top - 1, joined(step, item(stack, top - 1), item(stack, top)));
                 }
             }
-            return top > 0 ? held(stack[0], -MOST_TOLD, MOST_TOLD) : 0;
+            return held(item(stack, 0), -MOST_TOLD, MOST_TOLD);
         }
 
         /** Whether takes or puts of a text have a step. */
@@ -1171,13 +1171,10 @@ public final class RoadsNotGoneBy {
         }
 
         void readNot(int open) {
-            if (may(KEY_NOT)) {
-                if (open < MOST_OPEN) {
-                    readNot(open + 1);
-                    texts.write(Texts.NOT);
-                } else {
-                    fails(next - 1);
-                }
+            if (token() == KEY_NOT && open < MOST_OPEN) {
+                next++;
+                readNot(open + 1);
+                texts.write(Texts.NOT);
                 return;
             }
             readSum(open);
@@ -1208,23 +1205,27 @@ public final class RoadsNotGoneBy {
 
         void readOne(int open) {
             int sort = token();
-            boolean opens = sort == '(' || sort == '-';
-            boolean stands = opens ? open < MOST_OPEN : sort == NUMBER || sort >= NAME_FIRST && sort <= NAME_LAST;
-            if (!stands) {
-                fails(next);
-                return;
-            }
-            next++;
-            if (sort == '(') {
-                readOr(open + 1);
-                must(')');
-            } else if (sort == '-') {
-                readOne(open + 1);
-                texts.write(Texts.LESS_ONE);
+            if ((sort == '(' || sort == '-') && open < MOST_OPEN) {
+                next++;
+                readOpened(sort, open + 1);
             } else if (sort == NUMBER) {
-                texts.write(item(values, next - 1));
-            } else {
+                texts.write(item(values, next));
+                next++;
+            } else if (sort >= NAME_FIRST && sort <= NAME_LAST) {
                 texts.write(Texts.FIRST_NAME - (sort - NAME_FIRST));
+                next++;
+            } else {
+                fails(next);
+            }
+        }
+
+        void readOpened(int sort, int open) {
+            if (sort == '(') {
+                readOr(open);
+                must(')');
+            } else {
+                readOne(open);
+                texts.write(Texts.LESS_ONE);
             }
         }
     }
