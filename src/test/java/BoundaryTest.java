@@ -460,6 +460,17 @@ public final class BoundaryTest {
         stands("takes1or 1and 1;puts(1)and(1);feels not(1)or-1;");
         fault("takes ", "z", END);
         fault("takes ", "a", END);
+        fault("takes ", "jarz", END);
+        fault("takes ", "ajar", END);
+        for (String word : new String[] {"rossing", "xrossing", "crossinx", "far", "jax", "lumber", "numbex", "fear", "yeax", "food", "moox", "beaten", "eatex"}) {
+            fault("takes ", word, END);
+        }
+        fault("", "makes", " 1" + END);
+        fault("takes 1;", "cuts", " 1;feels 1;");
+        fault("takes 1;puts 1;", "peels", " 1;");
+        fault("takes 1 ", "ar", " 1" + END);
+        fault("takes 1 ", "end", " 1" + END);
+        fault("takes ", "dot", " 1" + END);
         fault("takes ", "{", END);
         fault("takes ", "`", END);
         fault("takes year", "Z", END);
@@ -888,6 +899,19 @@ public final class BoundaryTest {
         }
         x.set(0, 0, 2);
         due("both ROADS TO it: none to turn", x.fewest(0, 2, 1), 0);
+        // From 0 by ROAD 0 to 1, from there by ROAD 1 to 3, from there by ROAD 1 to 5; turned, from 1 to 2, from 3 to 4.
+        x = ruledBy("crossing", "0", "0");
+        x.life(0, 0, 0);
+        int[][] odd = {{3, 2, 0}, {5, 3, 0}, {2, 2, 1}, {2, 1, 1}, {4, 3, 1}, {4, 2, 2}, {3, 3, 1}, {6, 3, 3}, {1, 1, 0}, {0, 1, NONE}};
+        for (int[] o : odd) {
+            due("fewest(0, " + o[0] + ", " + o[1] + "), where CROSSING is odd", x.fewest(0, o[0], o[1]), o[2]);
+        }
+        x = ruledBy("1", "0", "0");
+        x.life(0, 0, 3);
+        due("ROAD 1", x.fewest(0, 5, 1), 0);
+        due("ROAD 0 of 3, turned", x.fewest(0, 4, 1), 1);
+        x.set(0, 8, 11);
+        due("ROAD 0 of 4, turned", x.fewest(0, 11, 2), 2);
 
         says(0, "MEET (two): behind how many YEARS (0 .. 60) both are AT one CROSSING first; NONE.");
         x = new RoadsNotGoneBy();
@@ -933,6 +957,11 @@ public final class BoundaryTest {
         due("once at 0", x.shut(2, 1), 1);
         x.set(0, 22, 5);
         due("none is better", x.shut(1, 0), NONE);
+        x = ruledBy("0", "crossing=1", "1");
+        x.life(0, 0, 11);
+        x.set(0, 2, 1);
+        due("0 shut, one is at 1 sooner", x.shut(2, 0), 0);
+        due("0 shut", x.shut(2, 1), 1);
 
         says(0, "SPOON FOR (one): the JAR that has any by a spoon of which one FEELS best now; of like ones the first; NONE; how.");
         x = ruledBy("0", "0", "jar-50");
@@ -946,6 +975,9 @@ public final class BoundaryTest {
         x.set(1, 5, 148);
         due("99 both", x.best(0, 0), 7);
         due("how", x.best(0, 1), 99);
+        x.set(1, 0, 998);
+        due("JAR 0", x.best(0, 0), 0);
+        x.set(1, 0, 0);
 
         says(0, "SHELF: the JAR that has most; of like ones the first; NONE: all are empty.");
         due("most", x.best(0, 2), 12);
@@ -1040,6 +1072,20 @@ public final class BoundaryTest {
         moodAlone("mood=99", 1, 99);
         moodAlone("mood<0", 99, -99);
         moodAlone("0<mood", 99, 1);
+        moodAlone("mood", 100, -99);
+        moodsOfAGirl();
+        // Only by MOOD 5 or 7 the JAR that was not taken in the first YEAR has as much as leads from 0 to 2 in the second.
+        x = ruledBy("jar=5", "mood", "0");
+        feedAll(x, "takes jar=7;puts mood;feels 0;");
+        x.text();
+        x.life(0, 0, 0);
+        x.set(0, 0, 0);
+        cells(x, 0, 0, 0, 2);
+        due("MOODS by puts", x.tells(0, 0, 4), 1);
+        due("MOODS by puts", x.tells(0, 0, 5), 5);
+        x.force(2);
+        due("MOODS by puts", x.tells(0, 0, 4), 1);
+        due("MOODS by puts", x.tells(0, 0, 5), 7);
         x = ruledBy("1", "0", "0");
         for (int i = 2; i < 6; i++) {
             feedAll(x, (i == 5 ? "takes 0" : "takes 1") + END);
@@ -1066,8 +1112,19 @@ public final class BoundaryTest {
         due("a LIFE, a BISHOP, a WOMAN", x.tells(0, 0, 1), 1 | 1 << 4 | 1 << 5);
     }
 
+    private static void moodsOfAGirl() {
+        RoadsNotGoneBy x = new RoadsNotGoneBy();
+        x.life(3, 9, 0);
+        cells(x, 0, 0, 1);
+        due("a GIRL not below 0", x.tells(0, 0, 4), 100);
+        due("a GIRL not below 0", x.tells(0, 0, 5), 0);
+        cells(x, 0, 0, 2);
+        due("a GIRL below 0", x.tells(0, 0, 4), 99);
+        due("a GIRL below 0", x.tells(0, 0, 5), -99);
+    }
+
     private static void moodAlone(String takes, int many, int least) {
-        RoadsNotGoneBy x = ruledBy(takes, "0", "0");
+        RoadsNotGoneBy x = ruledBy(takes, "mood", "0");
         x.life(0, 0, 0);
         cells(x, 0, 0, 2);
         due(takes, x.tells(0, 0, 4), many);
@@ -1597,6 +1654,12 @@ public final class BoundaryTest {
         due("LIVES that came go", x.told(2, 7), -1000);
         due("none of them at 2", x.told(2, 10), 0);
         due("there is room again", x.life(0, 0, 0), 2);
+        x.set(5, 2, 50);
+        x.set(6, 2, 50);
+        x.back();
+        due("there is room again", x.life(0, 0, 0), 2);
+        due("MOOD 0 as one comes", x.told(2, 5), 0);
+        due("EATEN 0 as one comes", x.told(2, 6), 0);
         due("THE TAPE is as it was", x.count(4), 8 + END.length());
         due("a SHEET is as it was", x.cell(0, 2, 1), 1);
 
