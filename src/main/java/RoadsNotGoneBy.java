@@ -874,11 +874,11 @@ public final class RoadsNotGoneBy {
             return mood;
         }
 
-        int bothJars(int crossing) {
+        private int bothJars(int crossing) {
             return item(jars, 2 * crossing) + item(jars, 2 * crossing + 1);
         }
 
-        int[] namesOf(int one, int jar) {
+        private int[] namesOf(int one, int jar) {
             putItem(named, 0, item(at, one));
             putItem(named, 1, jar);
             putItem(named, 2, item(numbers, one));
@@ -949,7 +949,7 @@ public final class RoadsNotGoneBy {
             return false;
         }
 
-        static int joined(int step, int a, int b) {
+        private static int joined(int step, int a, int b) {
             switch (step) {
                 case OR:
                     return a != 0 || b != 0 ? 1 : 0;
@@ -1018,7 +1018,7 @@ public final class RoadsNotGoneBy {
         }
 
         // Nothing behind a faulty token is ever read, so the cutting ends with it.
-        void cut() {
+        private void cut() {
             tokens = 0;
             int place = 0;
             boolean goes = true;
@@ -1038,14 +1038,14 @@ public final class RoadsNotGoneBy {
             add(END, 0, size);
         }
 
-        void add(int sort, int value, int place) {
+        private void add(int sort, int value, int place) {
             putItem(sorts, tokens, sort);
             putItem(values, tokens, value);
             putItem(places, tokens, place);
             tokens++;
         }
 
-        int tokenEnd(int place) {
+        private int tokenEnd(int place) {
             int first = item(tape, place);
             int till = place + 1;
             while (till < size && (isLetter(first) && isLetter(item(tape, till))
@@ -1055,7 +1055,7 @@ public final class RoadsNotGoneBy {
             return till;
         }
 
-        int sortOf(int place, int till) {
+        private int sortOf(int place, int till) {
             int first = item(tape, place);
             if (isLetter(first)) {
                 return wordSort(place, till);
@@ -1078,7 +1078,7 @@ public final class RoadsNotGoneBy {
             }
         }
 
-        int wordSort(int place, int till) {
+        private int wordSort(int place, int till) {
             int sort = spells("takes", place, till) ? KEY_TAKES
                     : spells("puts", place, till) ? KEY_TAKES + PUTS
                     : spells("feels", place, till) ? KEY_TAKES + FEELS
@@ -1096,7 +1096,7 @@ public final class RoadsNotGoneBy {
                     : spells("eaten", place, till) ? NAME_LAST : FAULTY;
         }
 
-        boolean spells(String word, int place, int till) {
+        private boolean spells(String word, int place, int till) {
             if (till - place != word.length()) {
                 return false;
             }
@@ -1108,7 +1108,7 @@ public final class RoadsNotGoneBy {
             return true;
         }
 
-        int numberOf(int place, int till) {
+        private int numberOf(int place, int till) {
             int number = 0;
             for (int i = place; i < till; i++) {
                 number = number * 10 + item(tape, i) - '0';
@@ -1116,24 +1116,24 @@ public final class RoadsNotGoneBy {
             return number;
         }
 
-        static boolean isBlank(int letter) {
+        private static boolean isBlank(int letter) {
             return letter == 32 || letter == 10;
         }
 
-        static boolean isLetter(int letter) {
+        private static boolean isLetter(int letter) {
             return letter >= 'a' && letter <= 'z';
         }
 
-        static boolean isDigit(int letter) {
+        private static boolean isDigit(int letter) {
             return letter >= '0' && letter <= '9';
         }
 
         // Behind a fault every token is a faulty one, so that all reading ends.
-        int token() {
+        private int token() {
             return fault == NONE ? item(sorts, next) : FAULTY;
         }
 
-        boolean may(int sort) {
+        private boolean may(int sort) {
             if (token() != sort) {
                 return false;
             }
@@ -1141,20 +1141,20 @@ public final class RoadsNotGoneBy {
             return true;
         }
 
-        void must(int sort) {
+        private void must(int sort) {
             if (!may(sort)) {
                 fails(next);
             }
         }
 
-        void fails(int token) {
+        private void fails(int token) {
             if (fault == NONE) {
                 fault = item(places, token);
             }
         }
 
         // open: how many of ( , not and - stand open
-        void readOr(int open) {
+        private void readOr(int open) {
             readAnd(open);
             for (int i = 0; i < TAPE_SIZE && may(KEY_OR); i++) {
                 readAnd(open);
@@ -1162,7 +1162,7 @@ public final class RoadsNotGoneBy {
             }
         }
 
-        void readAnd(int open) {
+        private void readAnd(int open) {
             readNot(open);
             for (int i = 0; i < TAPE_SIZE && may(KEY_AND); i++) {
                 readNot(open);
@@ -1170,7 +1170,7 @@ public final class RoadsNotGoneBy {
             }
         }
 
-        void readNot(int open) {
+        private void readNot(int open) {
             if (token() == KEY_NOT && open < MOST_OPEN) {
                 next++;
                 readNot(open + 1);
@@ -1185,7 +1185,7 @@ public final class RoadsNotGoneBy {
             }
         }
 
-        void readSum(int open) {
+        private void readSum(int open) {
             readTerm(open);
             for (int i = 0; i < TAPE_SIZE && (token() == '+' || token() == '-'); i++) {
                 int step = token() == '+' ? Texts.PLUS : Texts.MINUS;
@@ -1195,7 +1195,7 @@ public final class RoadsNotGoneBy {
             }
         }
 
-        void readTerm(int open) {
+        private void readTerm(int open) {
             readOne(open);
             for (int i = 0; i < TAPE_SIZE && may('*'); i++) {
                 readOne(open);
@@ -1203,7 +1203,7 @@ public final class RoadsNotGoneBy {
             }
         }
 
-        void readOne(int open) {
+        private void readOne(int open) {
             int sort = token();
             if ((sort == '(' || sort == '-') && open < MOST_OPEN) {
                 next++;
@@ -1219,7 +1219,7 @@ public final class RoadsNotGoneBy {
             }
         }
 
-        void readOpened(int sort, int open) {
+        private void readOpened(int sort, int open) {
             if (sort == '(') {
                 readOr(open);
                 must(')');
@@ -1256,7 +1256,7 @@ public final class RoadsNotGoneBy {
         }
 
         boolean hasSpan(int i, int n) {
-            return n >= 0 && n <= size && i >= 0 && i <= size - n;
+            return n >= 0 && n <= size && size <= items.length && i >= 0 && i <= size - n;
         }
     }
 }

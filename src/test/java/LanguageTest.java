@@ -140,7 +140,7 @@ public final class LanguageTest {
             {"12", "reader.readText();\n    }", "reader.readText(); own(this); } private static void own(RoadsNotGoneBy x) { }"},
             {"12", "private static final class Sheet {", "private static class Sheet { Sheet() { goes(); }"},
             {"8", "&& open < MOST_OPEN) {\n                next++;\n                readNot(open + 1)", ") {\n                next++;\n                readNot(open + 1)"},
-            {"8", "readNot(open + 1)", "readNot(open)"}, {"8", "readOpened(sort, open + 1)", "readOpened(sort, open)"},
+            {"8", "private void readAnd(", "void readAnd("}, {"8", "readNot(open + 1)", "readNot(open)"}, {"8", "readOpened(sort, open + 1)", "readOpened(sort, open)"},
             {"7", "if (made == null || ", "if ("}, {"7", "if (from.hasSpan(i, n) && to.hasSpan(j, n)) {", "if (from.hasSpan(i, n)) {"}};
         for (String[] o : others) {
             mustFind(o[0], o[1] + " -> " + o[2], source.replace(o[1], o[2]), source, document);
@@ -1020,6 +1020,9 @@ public final class LanguageTest {
             for (Element m : methods.keySet()) {
                 if (leadsTo(m, m, callsOnALevel, new HashSet<>())) {
                     fault(8, methods.get(m), "it calls itself, and no depth is counted");
+                }
+                if (!m.getModifiers().contains(Modifier.PRIVATE) && leadsTo(m, m, callees, new HashSet<>())) {
+                    fault(8, methods.get(m), "it calls itself, and isn't private");
                 }
                 if (deepest(m, new HashMap<>(), new HashSet<>()) > 8) {
                     fault(11, methods.get(m), "calls more than eight deep");
